@@ -414,9 +414,9 @@ public final class StackRuns {
             for (int x = 0; x < rules.controls; x++) {
                 long first = sum(1, least[inner + x]);
                 if (first != NEVER) {
-                    boolean lower = rules.below[r] == NO_SIGN
+                    boolean lowered = rules.below[r] == NO_SIGN
                         ? lower(base + x, first) : lowerRow(rules, base, first, headOf(x, rules.below[r]));
-                    better = lower || better;
+                    better = lowered || better;
                 }
             }
             return better;
@@ -532,9 +532,9 @@ public final class StackRuns {
             for (int place = 0; place < PLACES; place++) {
                 long first = sum(1, cost[inner + place]);
                 if (first != NEVER) {
-                    boolean lower = rules.below[r] == NO_SIGN
+                    boolean lowered = rules.below[r] == NO_SIGN
                         ? lower(rules.head[r], place, first) : lowerRow(rules.head[r], first, place, rules.below[r]);
-                    better = lower || better;
+                    better = lowered || better;
                 }
             }
             return better;
