@@ -488,6 +488,9 @@ public final class PromiseTest {
         due("without bound", x.high(), NONE);
         x.unrule();
         due("bound again", x.high(), 3);
+        StackRuns z = machineOf(1, 5, rule(0, 1, 0, 2, 0), rule(0, 2, 0, -1, -1), rule(0, 0, 0, 3, 3), rule(0, 3, 0, 4, 4));
+        place(z, 0, 1);
+        due("what was below grows highest", z.high(), 3);
         StackRuns y = machineOf(5, 5);
         for (int i = 0; i < 24; i++) {
             due("rule", y.rule(i / 5, i % 5, (i + 1) / 5, (i + 1) % 5, 0), i);
