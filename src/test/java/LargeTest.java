@@ -1,4 +1,5 @@
 import java.math.BigInteger;
+import java.util.Arrays;
 import java.util.Random;
 
 /** Long runs, too long to be gone: pops and far against exact numbers that are found the least one first. */
@@ -14,6 +15,14 @@ public final class LargeTest {
         {1, 4, 2, 4, 3}, {3, 3, 4, 2, 2}, {1, 1, 3, -1, -1}, {3, 0, 3, 3, 1}, {4, 2, 4, 4, 2}, {3, 2, 3, 4, 1},
         {2, 4, 4, 3, 3}, {3, 4, 2, 1, 1}, {2, 2, 3, 2, 1}, {4, 3, 4, 0, 4}, {2, 0, 1, -1, -1}, {0, 3, 4, 0, 0},
         {0, 4, 4, -1, -1}, {4, 0, 1, 4, 3}};
+
+    /** Another one, in which some cost over fifteen thousand million steps: more than 33 bits hold. */
+    private static final int[][] DEEPER = {{0, 1, 2, -1, -1}, {4, 2, 2, 4, 4}, {2, 2, 0, 1, 2}, {1, 4, 3, 3, 4},
+        {3, 0, 3, 2, 3}, {0, 0, 2, 3, 3}, {3, 1, 1, 1, 0}, {2, 4, 1, 2, 3}, {0, 2, 1, 0, 0}, {1, 1, 4, 1, 0},
+        {0, 2, 0, 3, 2}, {2, 3, 3, 1, 0}, {3, 0, 1, 0, 2}, {2, 0, 2, 3, 1}, {3, 3, 4, 2, 4}, {4, 4, 1, -1, -1},
+        {4, 0, 4, 4, 4}, {3, 3, 0, -1, -1}, {3, 2, 0, 0, 4}, {0, 4, 4, -1, -1}, {1, 0, 2, 2, 2}, {0, 3, 2, 4, 2},
+        {2, 1, 2, 0, 0}, {2, 0, 0, 0, 0}, {2, 0, 4, 0, 0}, {4, 1, 2, 1, 0}, {4, 3, 2, 3, 4}, {1, 3, 3, -1, -1},
+        {1, 2, 3, 0, 4}, {0, 1, 0, 2, 2}};
 
     private static void due(String what, long got, BigInteger want) {
         long told = want == null ? StackRuns.NONE : want.min(LIMIT).longValueExact();
@@ -86,31 +95,52 @@ public final class LargeTest {
         return row;
     }
 
-    private static void check(int[][] rules, Random random) {
+    /** A set for each control: its stand with an empty stack. */
+    private static StackRuns told(int[][] rules) {
         StackRuns x = new StackRuns();
         x.machine(5, 5);
         for (int[] r : rules) {
             x.rule(r[0], r[1], r[2], r[3], r[4]);
         }
+        for (int q = 0; q < 5; q++) {
+            x.last(x.set(), 0, q, true);
+        }
+        return x;
+    }
+
+    private static void check(int[][] rules, Random random) {
+        StackRuns x = told(rules);
         BigInteger[][][] pops = pops(rules);
         for (int i = 0; i < 125; i++) {
             due("pop " + i, x.pop(i / 25, i / 5 % 5, i % 5), pops[i / 25][i / 5 % 5][i % 5]);
         }
-        for (int q = 0; q < 5; q++) {
-            x.last(x.set(), 0, q, true);
-        }
         for (int round = 0; round < 4; round++) {
-            int p = random.nextInt(5);
             int[] topFirst = new int[60];
-            x.stand(p);
             for (int i = 59; i >= 0; i--) {
                 topFirst[i] = random.nextInt(5);
-                x.push(topFirst[i]);
             }
-            BigInteger[] row = emptied(pops, p, topFirst);
-            for (int q = 0; q < 5; q++) {
-                due("far to control " + q, x.far(q), row[q]);
-            }
+            checkFar(x, pops, random.nextInt(5), topFirst);
+        }
+    }
+
+    private static void checkFar(StackRuns x, BigInteger[][][] pops, int p, int[] topFirst) {
+        x.stand(p);
+        for (int i = topFirst.length - 1; i >= 0; i--) {
+            x.push(topFirst[i]);
+        }
+        BigInteger[] row = emptied(pops, p, topFirst);
+        for (int q = 0; q < 5; q++) {
+            due("far to control " + q, x.far(q), row[q]);
+        }
+    }
+
+    /** Sixty times the same sign, so that the dearest pops add up. */
+    private static void checkPiles(int[][] rules) {
+        BigInteger[][][] pops = pops(rules);
+        for (int i = 0; i < 25; i++) {
+            int[] topFirst = new int[60];
+            Arrays.fill(topFirst, i % 5);
+            checkFar(told(rules), pops, i / 5, topFirst);
         }
     }
 
@@ -123,6 +153,9 @@ public final class LargeTest {
     public static void main(String[] args) {
         Random random = new Random(7);
         check(DEEP, random);
+        check(DEEPER, random);
+        checkPiles(DEEP);
+        checkPiles(DEEPER);
         for (int i = 0; i < 150; i++) {
             int[][] rules = i % 2 == 0 ? DEEP.clone() : new int[30][];
             for (int r = 0; r < 30; r++) {
